@@ -67,7 +67,9 @@ public final class PairsTest {
         CHECK.is("none", tree.parts(0), 0);
         CHECK.is("none, the most", tree.parts(Long.MAX_VALUE), 0);
         int[] numbers = {0, 0, 1, 3, 6, 10};
-        for (int id = 0; id < numbers.length; id++) {
+        tree.put(0, numbers[0], 0, 0, 0);
+        CHECK.is("one", tree.parts(0), 1);
+        for (int id = 1; id < numbers.length; id++) {
             tree.put(id, numbers[id], 0, 0, 0);
         }
         CHECK.is("most 0", tree.parts(0), 5);
@@ -79,6 +81,11 @@ public final class PairsTest {
         CHECK.is("the most", tree.parts(Long.MAX_VALUE), 1);
         tree.drop(3);
         CHECK.is("what joined them went", tree.parts(9), 3);
+        NearTree two = new NearTree(2);
+        two.put(0, 0, 0, 0, 0);
+        two.put(1, 3, 4, 0, 0);
+        CHECK.is("two apart", two.parts(24), 2);
+        CHECK.is("two together", two.parts(25), 1);
     }
 
     private static void partsRefuses() {

@@ -11,6 +11,7 @@ public final class TreeTest {
         deadOnesGoWhenBuiltAnew();
         builtAnewByGoing();
         axesTakeTurns();
+        builtAnewTakesNewAxes();
         walkRefuses();
         countTells();
         CHECK.end();
@@ -148,6 +149,22 @@ public final class TreeTest {
         node("by z left", tree, 6, 3, 1, 4, 0, 1);
         tree.put(7, 2, 8, -1, 0);
         node("by x again left", tree, 7, 4, 1, 6, 0, 1);
+    }
+
+    private static void builtAnewTakesNewAxes() {
+        NearTree tree = new NearTree(3);
+        tree.put(0, 0, 0, 0, 0);
+        tree.put(1, 1, 9, 0, 0);
+        tree.put(2, 2, 1, 0, 0);
+        tree.put(3, 3, 5, 0, 0);
+        CHECK.walk("by x, then y", tree, 2, 1, 0, 3);
+        node("left", tree, 1, 1, 2, 2, 0, 1);
+        node("left of left", tree, 0, 2, 1, 1, 0, 1);
+        node("right", tree, 3, 1, 1, 2, 0, 0);
+        tree.put(4, 5, 4, 0, 0);
+        node("by y below what was the third", tree, 4, 2, 1, 3, 0, 1);
+        tree.put(5, 0, 0, -1, 0);
+        node("by z below what was the root", tree, 5, 3, 1, 0, 0, 1);
     }
 
     private static void walkRefuses() {
