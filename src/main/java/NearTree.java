@@ -420,6 +420,9 @@ public final class NearTree {
             order(from, to, axis);
             int middle = from + (to - from) / 2;
             Node node = row[middle];
+            if (node == null) {
+                return null;
+            }
             node.above = above;
             node.depth = depth;
             node.axis = axis;
@@ -434,12 +437,16 @@ public final class NearTree {
             for (int next = from + 1; next < to; next++) {
                 Node node = row[next];
                 int place = next;
-                while (place > from && node.isLess(row[place - 1], axis)) {
+                while (place > from && isAhead(node, row[place - 1], axis)) {
                     row[place] = row[place - 1];
                     place--;
                 }
                 row[place] = node;
             }
+        }
+
+        private static boolean isAhead(Node node, Node other, int axis) {
+            return node != null && other != null && node.isLess(other, axis);
         }
 
         private int axisBehind(int axis) {
@@ -585,17 +592,23 @@ public final class NearTree {
 
         /** Goes by rising IDS, so that of several pairs the first one found is due. */
         void findNearestPair(Node[] liveById) {
-            gather(liveById);
             pairDistance = Long.MAX_VALUE;
-            for (int a = 0; a < size; a++) {
-                for (int b = a + 1; b < size; b++) {
-                    long distance = points[a].place.distanceTo(points[b].place);
-                    if (distance < pairDistance) {
-                        pairDistance = distance;
-                        lesserId = points[a].id;
-                        greaterId = points[b].id;
-                    }
+            for (int lesser = 0; lesser < liveById.length; lesser++) {
+                for (int greater = lesser + 1; greater < liveById.length; greater++) {
+                    comparePair(liveById[lesser], liveById[greater]);
                 }
+            }
+        }
+
+        private void comparePair(Node lesser, Node greater) {
+            if (lesser == null || greater == null) {
+                return;
+            }
+            long distance = lesser.place.distanceTo(greater.place);
+            if (distance < pairDistance) {
+                pairDistance = distance;
+                lesserId = lesser.id;
+                greaterId = greater.id;
             }
         }
 
@@ -606,14 +619,17 @@ public final class NearTree {
                 lengths[i] = Long.MAX_VALUE;
             }
             for (int joined = 1; joined < size; joined++) {
-                reachFrom(points[joined - 1].place, joined);
+                reachFrom(points[joined - 1], joined);
                 swap(joined, leastFrom(joined));
             }
         }
 
-        private void reachFrom(Place place, int first) {
+        private void reachFrom(Node from, int first) {
             for (int i = first; i < size; i++) {
-                lengths[i] = Math.min(lengths[i], place.distanceTo(points[i].place));
+                Node to = points[i];
+                if (from != null && to != null) {
+                    lengths[i] = Math.min(lengths[i], from.place.distanceTo(to.place));
+                }
             }
         }
 
