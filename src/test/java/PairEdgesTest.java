@@ -93,6 +93,8 @@ public final class PairEdgesTest {
         S.of("Promise 12", words, "by others between them");
         S.run(1, "put 1 0", "put 2 10", "put 3 20", "put 4 31", "parts 100 = 2", "parts 121 = 1", "parts 99 = 4");
         S.run(1, "put 4 0", "put 1 20", "put 3 10", "put 2 30", "parts 100 = 1");
+        S.of("Promise 12", words, "IDS that do not stand in the order of the places");
+        S.run(1, "put 1 0", "put 2 100", "put 3 1", "put 4 101", "put 5 50", "parts 0 = 5", "parts 1 = 3", "parts 2400 = 3", "parts 2401 = 2", "parts 2499 = 2", "parts 2500 = 1");
         S.of("Promise 12", words, "two parts that a third one joins");
         S.run(1, "put 1 0", "put 2 1", "put 8 4", "put 9 5", "parts 4 = 2", "put 5 3", "parts 4 = 1");
         S.of("Promise 12", words, "LIVE ones alone: a DEAD one joins none");
@@ -122,6 +124,8 @@ public final class PairEdgesTest {
         S.run(1, "put 1 5", "put 2 0", "put 3 10", "span = 50");
         S.run(1, "put 2 5", "put 1 0", "put 3 10", "span = 50");
         S.run(1, "put 3 5", "put 1 0", "put 2 10", "span = 50");
+        S.of("Promise 13", words, "IDS that do not stand in the order of the places");
+        S.run(1, "put 1 0", "put 2 100", "put 3 1", "span = 9802", "put 4 101", "span = 9803", "put 5 50", "span = 4903");
         S.of("Promise 13", words, "LIVE ones alone: a DEAD one joins none");
         S.run(1, "put 1 0", "put 2 5", "put 3 10", "drop 2", "count 2 = 3", "span = 100");
         S.of("Promise 13", words, "two parts far from one another are joined once");

@@ -27,6 +27,7 @@ public final class TreeEdgesTest {
         builtAnewOfFew();
         builtAnewByItsOwnAxis();
         builtAnewOfMany();
+        builtAnewOfAll();
         nodeOfRoot();
         nodeBelow();
         nodeRefuses();
@@ -251,6 +252,32 @@ public final class TreeEdgesTest {
                 order(stay, 0, d, due);
                 S.run(d, rows, "walk: " + Sentences.joined(due), "count 6 = 1", "count 3 = 0");
             }
+        }
+    }
+
+    /** Right 40 of 60 NODES, one of them DEAD; the one that comes is the 60th LIVE POINT and has the root BUILT ANEW. */
+    private static void builtAnewOfAll() {
+        for (int d = 1; d <= 4; d++) {
+            S.of("Terms, 2", ANEW, "all sixty, of " + d);
+            List<String> rows = new ArrayList<>(List.of("put 0 0 0 0 0"));
+            List<int[]> live = new ArrayList<>(List.of(new int[] {0, 0, 0, 0, 0}));
+            int left = 0;
+            int right = 0;
+            for (int id = 1; id < 61; id++) {
+                boolean toLeft = id % 3 == 1 && left < 19;
+                // Bits turned round halve the range again and again, so that each side grows evenly by every axis.
+                int turned = Integer.reverse(toLeft ? ++left : ++right) >>> 20;
+                int[] p = {id, toLeft ? turned - 4096 : turned + 1, d == 1 ? 0 : turned, d <= 2 ? 0 : turned, d <= 3 ? 0 : turned};
+                if (id == 60) {
+                    rows.addAll(List.of("count 5 = 0", "drop 58 = 59", "node 0 1 = 60"));
+                    live.removeIf(q -> q[0] == 58);
+                }
+                rows.add("put " + p[0] + " " + p[1] + " " + p[2] + " " + p[3] + " " + p[4]);
+                live.add(p);
+            }
+            List<String> due = new ArrayList<>();
+            order(live.toArray(new int[0][]), 0, d, due);
+            S.run(d, rows, "count: " + d + " 60 60 0 6 1 0 60", "walk: " + Sentences.joined(due));
         }
     }
 
