@@ -5,18 +5,21 @@ public final class ModelRunsTest {
     private static final Check CHECK = new Check();
     private static final int RUNS = 2400;
     private static final int CALLS = 512;
+    /** A run is told with all its calls: more of them would hide the first one. */
+    private static final int MOST_WRONG_RUNS = 3;
 
     private static long seed;
 
     public static void main(String[] args) {
-        for (int run = 0; run < RUNS; run++) {
+        int wrong = 0;
+        for (int run = 0; run < RUNS && wrong < MOST_WRONG_RUNS; run++) {
             seed = run * 7919L + 1;
-            oneRun(run);
+            wrong += isGood(run) ? 0 : 1;
         }
         CHECK.end();
     }
 
-    private static void oneRun(int run) {
+    private static boolean isGood(int run) {
         int axes = run % 6;
         NearTree tree = new NearTree(axes);
         PlainModel model = new PlainModel(axes);
@@ -30,9 +33,10 @@ public final class ModelRunsTest {
             CHECK.is("run " + run + ", call " + call, got.equals(due) ? 0 : 1, 0);
             if (!got.equals(due)) {
                 CHECK.fail("due is " + due + " at the end of NearTree(" + axes + "):\n" + told);
-                return;
+                return false;
             }
         }
+        return true;
     }
 
     private static int below(int bound) {
