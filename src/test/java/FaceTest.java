@@ -1,12 +1,21 @@
+import java.io.IOException;
 import java.lang.reflect.Constructor;
 import java.lang.reflect.Field;
 import java.lang.reflect.Method;
 import java.lang.reflect.Modifier;
+import java.nio.file.Files;
+import java.nio.file.Path;
 import java.util.HashSet;
+import java.util.List;
 import java.util.Set;
 import java.util.TreeSet;
+import java.util.regex.Matcher;
+import java.util.regex.Pattern;
 
-/** The document's public face, no more and no less, and LANGUAGE.md's rules 1, 5 and 11 where a class file shows them. */
+/**
+ * The document's public face, no more and no less, and LANGUAGE.md's rules 1, 5 and 11 where a class file shows them;
+ * and that the source writes the face as the document does, with what it says ahead of the calls.
+ */
 public final class FaceTest {
     private static final Check CHECK = new Check();
 
@@ -28,7 +37,7 @@ public final class FaceTest {
         "public long NearTree.span()",
     };
 
-    public static void main(String[] args) {
+    public static void main(String[] args) throws IOException {
         Set<String> open = new TreeSet<>();
         Set<String> names = new HashSet<>();
         for (Method method : NearTree.class.getDeclaredMethods()) {
@@ -57,7 +66,47 @@ public final class FaceTest {
             CHECK.is(inside + " is not open", inside.getModifiers() & (Modifier.PUBLIC | Modifier.PROTECTED), 0);
             shape(inside, names);
         }
+        String document = Files.readString(Path.of("../shared/DOC.md"));
+        List<String> source = Files.readAllLines(Path.of("src/main/java/NearTree.java"));
+        writtenAsTheDocumentDoes(document, source);
+        saidAheadOfTheCalls(document, source);
         CHECK.end();
+    }
+
+    private static void writtenAsTheDocumentDoes(String document, List<String> source) {
+        int from = document.indexOf("```java");
+        int to = document.indexOf("```", from + 3);
+        int rows = 0;
+        for (String row : document.substring(from, to).split("\n")) {
+            if (row.trim().startsWith("public")) {
+                rows++;
+                // A method or a constructor has a body in the source, where the document has a semicolon.
+                String due = row.endsWith(");") || row.contains(" throws ") ? row.replace(";", " {") : row;
+                CHECK.is("the source has the row '" + due + "'", source.contains(due) ? 1 : 0, 1);
+            }
+        }
+        CHECK.is("rows of the document's face", rows, FACE.length + 3);
+    }
+
+    private static void saidAheadOfTheCalls(String document, List<String> source) {
+        Matcher says = Pattern.compile("Ahead of the calls (.*) the interface says: (----.*)\\.").matcher(document);
+        int calls = 0;
+        while (says.find()) {
+            Matcher name = Pattern.compile("`(\\w+)`").matcher(says.group(1));
+            while (name.find()) {
+                calls++;
+                String said = "";
+                for (String line : source) {
+                    if (line.startsWith("    // ----")) {
+                        said = line.trim();
+                    }
+                    if (line.matches("    public \\w+ " + name.group(1) + "\\(.*")) {
+                        CHECK.is(name.group(1) + " stands behind '" + said + "'", said.equals("// " + says.group(2)) ? 1 : 0, 1);
+                    }
+                }
+            }
+        }
+        CHECK.is("calls that the document says something ahead of", calls, FACE.length);
     }
 
     private static void same(String what, Set<String> got, Set<String> due) {
